@@ -800,7 +800,7 @@ public final class PermitBank {
         final int[] banks = new int[YEARS];
         final int[] shorts = new int[YEARS];
         final int[] done = new int[MEASURES];
-        /** flows[i][j]: how many permits of year i year j uses. */
+        /** flows[i][j]: how many permits of year i year j uses; i above j is never other than 0. */
         final int[][] flows = new int[YEARS][YEARS];
         private final int[] left = new int[YEARS];
         int years = 0;
@@ -1005,9 +1005,6 @@ public final class PermitBank {
                     flows[from][to] = many;
                     left[from] -= many;
                     wanted -= many;
-                }
-                for (int from = to + 1; from < years; from++) {
-                    flows[from][to] = 0;
                 }
             }
         }

@@ -94,7 +94,10 @@ public final class TapesTest {
         Check.due("31 year 2 is gone", x.of(2, 0), -1);
         Check.due("31 row 0 of the book", x.looked(), 0);
         Check.due("31 the text goes on", Check.read(x, ",1"), 1);
+        x.renew(0, 0, 20);
+        Check.holds("31 another total", x.total() != total);
         Check.due("31 again", x.undo(), 2);
+        Check.due("31 total again", x.total(), total);
         Check.due("31 as it was", x.told(0), 2);
         x.set(0, 0);
         x.image();
@@ -136,10 +139,14 @@ public final class TapesTest {
         }
         Check.due("33 n 0", x.tape(5, 0, 0), 1);
         Check.due("33 no places", x.item(5, 0, 0), -13);
+        x.tape(5, 0, 60);
+        x.item(5, 0, 1);
         Check.due("33 anew", x.tape(5, 0, 60), 1);
+        Check.due("33 0 at 0", x.peek(5, 0), 0);
         Check.due("33 0 again", x.peek(5, 59), 0);
         Check.due("33 nothing, n -1", x.tape(5, -1, -1), 1);
         Check.due("33 nothing there", x.item(5, 0, 0), -11);
+        Check.due("33 no place there", x.peek(5, 0), NO);
         Check.due("33 nothing, n 61", x.tape(5, -1, 61), 1);
     }
 

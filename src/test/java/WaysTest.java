@@ -96,6 +96,7 @@ public final class WaysTest {
         Check.due("18 other year", x.merit(1, 0), 1);
         Check.due("18 other year's end", x.merit(1, 1), -5);
         Check.due("18 year 2", x.merit(2, 0), -1);
+        Check.due("18 no measures", Check.bank("y1,1").merit(0, 0), -5);
         Check.due("18 year -1", x.merit(-1, 0), -1);
     }
 
@@ -119,6 +120,8 @@ public final class WaysTest {
         Check.due("20 none", x.shock(0, 0, 0), 0);
         Check.due("20 another one that has enough", x.shock(0, 1, 9), 0);
         Check.due("20 zero at least", x.shock(1, 1, -9), 0);
+        Check.due("20 no less than zero", Check.bank("y0,5").shock(0, 0, -9), -20);
+        Check.due("20 just one", Check.bank("y0,5").shock(0, 0, -4), 0);
         Check.due("20 changes nothing", x.of(0, 1), 20);
         Check.due("20 n 10", x.shock(0, 0, 10), NO);
         Check.due("20 n -10", x.shock(0, 0, -10), NO);

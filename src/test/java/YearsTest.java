@@ -55,6 +55,10 @@ public final class YearsTest {
         Check.due("2 emission", x.of(4, 1), 40);
         Check.due("2 first cap", x.of(0, 0), 0);
         Check.due("2 first emission", x.of(0, 1), 0);
+        PermitBank z = Check.bank("y0,5");
+        Check.due("2 total ahead", z.total(), 100);
+        z.year(0, 1);
+        Check.due("2 total behind", z.total(), 120);
     }
 
     private static void measures() {
@@ -78,6 +82,10 @@ public final class YearsTest {
         Check.due("3 year of 7", x.about(7, 0), 1);
         Check.due("3 cost of 7", x.about(7, 1), 13);
         Check.due("3 much of 7", x.about(7, 2), 7);
+        PermitBank z = Check.bank("y0,5");
+        Check.due("3 total ahead", z.total(), 100);
+        z.measure(0, 3, 4);
+        Check.due("3 total behind", z.total(), 32);
     }
 
     private static void renewing() {
@@ -145,6 +153,8 @@ public final class YearsTest {
         PermitBank x = new PermitBank();
         Check.due("7 one year", Check.read(x, "y20,10"), 1);
         Check.due("7 emptied", x.count(3), 0);
+        Check.due("7 nothing is left of it", x.read(), -10);
+        Check.due("7 nor behind a shorter one", Check.read(x, "y20"), -13);
         Check.due("7 zeros ahead", Check.read(x, "y05,00;f04;c00;s09;l3"), 5);
         Check.due("7 cap", x.of(1, 0), 5);
         Check.due("7 floor", x.told(2), 4);
