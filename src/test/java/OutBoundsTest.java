@@ -20,6 +20,7 @@ public final class OutBoundsTest {
         borrowedFromTheFirst();
         borrowedWhenAbove();
         borrowedByAll();
+        takenGivenBorrowedInOrder();
         sparedByTheFirst();
         lowAtLeast();
         nothingToSpare();
@@ -316,6 +317,24 @@ public final class OutBoundsTest {
         told("12 none short", x, 11, 0);
         // The last year borrows from none.
         row("8 the last", Check.bank("y9,0;y0,5;l5"), 7, 0, 0);
+    }
+
+    private static void takenGivenBorrowedInOrder() {
+        // Given ahead of borrowed: with what is given there is none to borrow.
+        PermitBank x = Check.bank("y0,1;y1,1;c7;s4;l3");
+        told("12 given first", x, 9, 1);
+        told("12 none to borrow", x, 10, 0);
+        row("8 permits", x, 2, 1, 1);
+        // Taken ahead of borrowed: what is taken can't be.
+        PermitBank z = Check.bank("y0,5;y3,0;f1;l5");
+        told("12 taken first", z, 8, 3);
+        told("12 none left to borrow", z, 10, 0);
+        // Taken ahead of given, and not again: what is given puts the price below the floor.
+        PermitBank w = Check.bank("y4,4;f5;c6");
+        told("12 taken once", w, 8, 1);
+        told("12 given back", w, 9, 1);
+        row("8 price below the floor", w, 4, 0);
+        row("8 permits again", w, 2, 4);
     }
 
     private static void sparedByTheFirst() {

@@ -19,6 +19,7 @@ public final class SeenBoundsTest {
         oneBehindTheOther();
         eightRowsBooked();
         firstOtherwise();
+        measuresOfLaterYears();
         Check.end();
     }
 
@@ -282,5 +283,24 @@ public final class SeenBoundsTest {
         }
         Check.due("28 no rows", new PermitBank().looked(), -5);
         Check.due("28 no rows of years", Check.bank("y0,5").looked(), -5);
+    }
+
+    private static void measuresOfLaterYears() {
+        PermitBank x = Check.bank("y5,5;y4,9;m15,2;m17,3;c5");
+        Check.due("8 price", x.of(1, 4), 7);
+        x.see(1, 5);
+        // 5 by an emission of 5 and 6.
+        Check.due("22 fits", x.fits(1, 0), 1);
+        Check.due("22 the least", x.fits(1, 1), 6);
+        // By caps 0 to 3 it is short, by 4 to 6 at 7, by 7 and 8 at 5, by 9 at 0.
+        Check.due("23 above 5", x.odds(1, 0), 7);
+        Check.due("23 of 10", x.odds(1, 1), 10);
+        x.set(1, 7);
+        Check.due("23 above 7", x.odds(1, 0), 2);
+        Check.due("23 of 5", x.odds(1, 1), 5);
+        x.event(0, 1);
+        Check.due("26 without a cap", x.after(0), 2 * 5 + 3 * 7 + 4 * 20);
+        x.event(0, 0);
+        Check.due("26 without caps", x.after(0), 2 * 5 + 3 * 7 + 4 * 20 + 5 * 20);
     }
 }

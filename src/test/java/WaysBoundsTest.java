@@ -17,6 +17,7 @@ public final class WaysBoundsTest {
         zeroAtLeast();
         aboveForty();
         shockOfAnother();
+        measuresOfLaterYears();
         Check.end();
     }
 
@@ -231,5 +232,19 @@ public final class WaysBoundsTest {
         Check.due("20 of the first", z.shock(0, 1, -9), -20);
         Check.due("20 of the second", z.shock(1, 1, -9), -20);
         Check.due("20 parted", z.shock(0, 0, 9), 0);
+    }
+
+    /** What would be goes by each YEAR's own MEASURES, and by a CAP or EMISSION of it alone. */
+    private static void measuresOfLaterYears() {
+        PermitBank x = Check.bank("y5,5;y0,6;m14,3;m17,3");
+        Check.due("13 all six", x.total(), 3 * 4 + 3 * 7);
+        Check.due("19 one less at 7", x.more(1), -7);
+        Check.due("19 kept for year 1", x.more(0), -7);
+        Check.due("20 three less", x.shock(1, 1, -3), -3);
+        Check.due("20 none to spare", x.shock(1, 1, 1), 13);
+        // Year 0 has none of year 1's measures.
+        PermitBank z = Check.bank("y5,5;y3,3;m14,3;m17,3");
+        Check.due("20 of the first", z.shock(0, 0, 1), 20);
+        Check.due("20 of the second", z.shock(1, 1, 1), 4);
     }
 }
