@@ -496,7 +496,7 @@ public final class PermitBank {
         return part == 0 ? above / divisor : below / divisor;
     }
 
-    /** The years, the measures and the four settings, as they were state. */
+    /** The years, the measures and the four settings, as they were told. */
     private static final class SetUp {
         final int[] caps = new int[YEARS];
         final int[] emissions = new int[YEARS];

@@ -381,6 +381,13 @@ public final class OutBoundsTest {
         PermitBank lacking = Check.bank("y1,9");
         Check.due("11 short", lacking.group(0, 4), 8);
         row("8 bank, 0 at least", lacking, 6, 0);
+        // All permits, used or not; as worked out, not the caps.
+        Check.due("11 more permits than used", enough.group(0, 3), 9);
+        Check.due("11 less used than permits", enough.group(0, 5), 1);
+        Check.due("11 less permits than used", lacking.group(0, 3), 1);
+        Check.due("11 more used than permits", lacking.group(0, 5), 9);
+        Check.due("11 permits behind the floor", Check.bank("y9,1;f1").group(0, 3), 0);
+        Check.due("11 permits behind the ceiling", Check.bank("y0,9;c0;s4").group(0, 3), 4);
         PermitBank most = Check.bank("y0,40;y0,40;y0,40;y0,40;y0,40");
         told("12 all shorts", most, 11, 200);
         // Each group's bank for itself: year 1 keeps none of year 0's.
